@@ -7,7 +7,7 @@ import java.util.Random;
  * every row of kept events with every row of steps, throws out what is no match, and sorts the rest.
  */
 public final class EventPatternsListing {
-    private static final int RUNS = 1500;
+    private static final int RUNS = 1000;
     private static final int CALLS = 512;
     private static int wrong = 0;
 
@@ -143,14 +143,23 @@ public final class EventPatternsListing {
                 return;
             }
             // A set bit stands for an event that goes over to the next step.
-            for (int turns = 0; turns < 1 << last; turns++) {
-                if (Integer.bitCount(turns) == steps.size() - 1) {
-                    int[] own = stepsOf(turns, numbers.length);
-                    if (holds(numbers, own)) {
-                        listed.add(new Match(numbers, own));
-                    }
+            int turns = (1 << (steps.size() - 1)) - 1;
+            while (turns < 1 << last) {
+                int[] own = stepsOf(turns, numbers.length);
+                if (holds(numbers, own)) {
+                    listed.add(new Match(numbers, own));
                 }
+                turns = nextWithAsManyBits(turns);
             }
+        }
+
+        private static int nextWithAsManyBits(int bits) {
+            if (bits == 0) {
+                return Integer.MAX_VALUE;
+            }
+            int lowest = bits & -bits;
+            int raised = bits + lowest;
+            return (bits ^ raised) >>> 2 >>> Integer.numberOfTrailingZeros(lowest) | raised;
         }
 
         private static int[] stepsOf(int turns, int length) {
@@ -213,7 +222,7 @@ public final class EventPatternsListing {
             this.number = number;
             chance = new Random(number);
             // The model lists all sets of events: most runs keep it to a few, some fill all sixteen.
-            fewKept = number % 25 == 0 ? 400 : 9;
+            fewKept = number % 100 == 0 ? 400 : 9;
             valueRange = 1 + chance.nextInt(6);
         }
 
