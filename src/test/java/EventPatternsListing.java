@@ -9,11 +9,6 @@ import java.util.Random;
 public final class EventPatternsListing {
     private static final int RUNS = 1000;
     private static final int CALLS = 512;
-    private static int wrong = 0;
-
-    private interface Call {
-        int answer();
-    }
 
     private record Event(int time, int kind, int value) { }
 
@@ -210,7 +205,7 @@ public final class EventPatternsListing {
     }
 
     /** One run: the object, the model and the chance that picks the calls. */
-    private static final class Run {
+    private static final class Pair {
         private final int number;
         private final Random chance;
         private final EventPatterns object = new EventPatterns();
@@ -218,7 +213,7 @@ public final class EventPatternsListing {
         private final int fewKept;
         private final int valueRange;
 
-        Run(int number) {
+        Pair(int number) {
             this.number = number;
             chance = new Random(number);
             // The model lists all sets of events: most runs keep it to a few, some fill all sixteen.
@@ -227,7 +222,7 @@ public final class EventPatternsListing {
         }
 
         void calls() {
-            for (int made = 0; made < CALLS && wrong < 20; made++) {
+            for (int made = 0; made < CALLS && Due.wrongs() < 20; made++) {
                 if (model.events.size() >= fewKept) {
                     clear();
                     continue;
@@ -319,31 +314,15 @@ public final class EventPatternsListing {
             return choices[chance.nextInt(choices.length)];
         }
 
-        private void check(String call, Call asked, Call due) {
-            String got = told(asked);
-            String want = told(due);
-            if (!got.equals(want)) {
-                wrong++;
-                System.out.println("run " + number + ": " + call + " answered " + got + ", due is " + want);
-            }
-        }
-
-        private static String told(Call call) {
-            try {
-                return String.valueOf(call.answer());
-            } catch (RuntimeException thrown) {
-                return "throws." + thrown.getClass().getSimpleName();
-            }
+        private void check(String call, Due.Call asked, Due.Call due) {
+            Due.text("run " + number + ": " + call, Due.told(asked), Due.told(due));
         }
     }
 
     public static void main(String[] args) {
-        for (int number = 0; number < RUNS && wrong < 20; number++) {
-            new Run(number).calls();
+        for (int number = 0; number < RUNS && Due.wrongs() < 20; number++) {
+            new Pair(number).calls();
         }
-        System.out.println(wrong == 0 ? "all answers are as due" : wrong + " answers are not as due");
-        if (wrong != 0) {
-            System.exit(1);
-        }
+        Due.end();
     }
 }

@@ -9,12 +9,6 @@ public final class EventPatternsPromises {
     private static final int LOOSE = 1;
     private static final int ANY = 255;
 
-    private static int wrong = 0;
-
-    private interface Call {
-        int answer();
-    }
-
     public static void main(String[] args) {
         terms();
         newObject();
@@ -36,38 +30,35 @@ public final class EventPatternsPromises {
         events();
         throwsChangeNothing();
         mostMatches();
-        System.out.println(wrong == 0 ? "all answers are as due" : wrong + " answers are not as due");
-        if (wrong != 0) {
-            System.exit(1);
-        }
+        Due.end();
     }
 
     private static void terms() {
-        due("NONE", EventPatterns.NONE, -1);
+        Due.number("NONE", EventPatterns.NONE, -1);
     }
 
     private static void newObject() {
         EventPatterns x = new EventPatterns();
-        due("new: events()", x.events(), 0);
-        dueThrow("new: count()", STATE, x::count);
-        dueThrow("new: latest()", STATE, x::latest);
-        dueThrow("new: length(0)", STATE, () -> x.length(0));
-        dueThrow("new: match(0, 0, 0)", STATE, () -> x.match(0, 0, 0));
+        Due.number("new: events()", x.events(), 0);
+        Due.thrown("new: count()", STATE, x::count);
+        Due.thrown("new: latest()", STATE, x::latest);
+        Due.thrown("new: length(0)", STATE, () -> x.length(0));
+        Due.thrown("new: match(0, 0, 0)", STATE, () -> x.match(0, 0, 0));
 
         addEvents(x, "0:0=0 0:0=0 0:0=0 1:0=0");
-        due("new: first step", x.step(ANY, 0, 0, false), 0);
-        due("new: second step", x.step(ANY, 0, 0, false), 1);
-        dueText("new: style 0 and span 0", matches(x), "0/0,1/1 1/0,2/1");
+        Due.number("new: first step", x.step(ANY, 0, 0, false), 0);
+        Due.number("new: second step", x.step(ANY, 0, 0, false), 1);
+        Due.text("new: style 0 and span 0", matches(x), "0/0,1/1 1/0,2/1");
     }
 
     private static void event() {
         EventPatterns x = new EventPatterns();
-        due("event: the first", x.event(0, 0, Integer.MIN_VALUE), 0);
-        due("event: the second", x.event(0, 7, Integer.MAX_VALUE), 1);
-        due("event: a later time", x.event(999999, 3, 0), 2);
-        due("event: the highest time", x.event(1000000, 0, 0), 3);
-        due("event: that time again", x.event(1000000, 0, 0), 4);
-        due("event: five came", x.events(), 5);
+        Due.number("event: the first", x.event(0, 0, Integer.MIN_VALUE), 0);
+        Due.number("event: the second", x.event(0, 7, Integer.MAX_VALUE), 1);
+        Due.number("event: a later time", x.event(999999, 3, 0), 2);
+        Due.number("event: the highest time", x.event(1000000, 0, 0), 3);
+        Due.number("event: that time again", x.event(1000000, 0, 0), 4);
+        Due.number("event: five came", x.events(), 5);
 
         for (int kind = 0; kind <= 7; kind++) {
             EventPatterns y = new EventPatterns();
@@ -75,78 +66,78 @@ public final class EventPatternsPromises {
             for (int bit = 0; bit <= 7; bit++) {
                 y.pattern(CLOSE, 0);
                 y.step(1 << bit, 0, 0, false);
-                due("event: kind " + kind + " with bit " + bit, y.count(), bit == kind ? 1 : 0);
+                Due.number("event: kind " + kind + " with bit " + bit, y.count(), bit == kind ? 1 : 0);
             }
         }
     }
 
     private static void eventRefuses() {
         EventPatterns x = new EventPatterns();
-        dueThrow("event: time -1", ARGUMENT, () -> x.event(-1, 0, 0));
-        dueThrow("event: least time", ARGUMENT, () -> x.event(Integer.MIN_VALUE, 0, 0));
-        dueThrow("event: time 1000001", ARGUMENT, () -> x.event(1000001, 0, 0));
-        dueThrow("event: highest int as time", ARGUMENT, () -> x.event(Integer.MAX_VALUE, 0, 0));
-        dueThrow("event: kind -1", ARGUMENT, () -> x.event(0, -1, 0));
-        dueThrow("event: kind 8", ARGUMENT, () -> x.event(0, 8, 0));
-        dueThrow("event: kind 32", ARGUMENT, () -> x.event(0, 32, 0));
-        due("event: none came", x.events(), 0);
+        Due.thrown("event: time -1", ARGUMENT, () -> x.event(-1, 0, 0));
+        Due.thrown("event: least time", ARGUMENT, () -> x.event(Integer.MIN_VALUE, 0, 0));
+        Due.thrown("event: time 1000001", ARGUMENT, () -> x.event(1000001, 0, 0));
+        Due.thrown("event: highest int as time", ARGUMENT, () -> x.event(Integer.MAX_VALUE, 0, 0));
+        Due.thrown("event: kind -1", ARGUMENT, () -> x.event(0, -1, 0));
+        Due.thrown("event: kind 8", ARGUMENT, () -> x.event(0, 8, 0));
+        Due.thrown("event: kind 32", ARGUMENT, () -> x.event(0, 32, 0));
+        Due.number("event: none came", x.events(), 0);
 
         x.event(10, 0, 0);
-        dueThrow("event: a time below the one before", ARGUMENT, () -> x.event(9, 0, 0));
-        due("event: the time of the one before", x.event(10, 0, 0), 1);
+        Due.thrown("event: a time below the one before", ARGUMENT, () -> x.event(9, 0, 0));
+        Due.number("event: the time of the one before", x.event(10, 0, 0), 1);
 
         for (int number = 2; number < 400; number++) {
-            due("event: number", x.event(10 + number / 50, 0, 0), number);
+            Due.number("event: number", x.event(10 + number / 50, 0, 0), number);
         }
-        dueThrow("event: the 401st", UNSUPPORTED, () -> x.event(20, 0, 0));
-        dueThrow("event: the 401st, its time wrong", ARGUMENT, () -> x.event(9, 0, 0));
-        dueThrow("event: the 401st, its kind wrong", ARGUMENT, () -> x.event(20, 8, 0));
-        due("event: 400 came", x.events(), 400);
+        Due.thrown("event: the 401st", UNSUPPORTED, () -> x.event(20, 0, 0));
+        Due.thrown("event: the 401st, its time wrong", ARGUMENT, () -> x.event(9, 0, 0));
+        Due.thrown("event: the 401st, its kind wrong", ARGUMENT, () -> x.event(20, 8, 0));
+        Due.number("event: 400 came", x.events(), 400);
         x.clear();
-        due("event: room again after clear()", x.event(0, 0, 0), 0);
+        Due.number("event: room again after clear()", x.event(0, 0, 0), 0);
     }
 
     private static void clear() {
         EventPatterns x = new EventPatterns();
         x.clear();
-        due("clear: with nothing there", x.events(), 0);
+        Due.number("clear: with nothing there", x.events(), 0);
         x.pattern(LOOSE, 5);
         x.step(ANY, 0, 0, true);
         addEvents(x, "100:0=0 101:1=0");
-        due("clear: before it", x.count(), 3);
+        Due.number("clear: before it", x.count(), 3);
         x.clear();
-        due("clear: events()", x.events(), 0);
-        due("clear: count(), as the pattern stays", x.count(), 0);
-        due("clear: latest()", x.latest(), 0);
-        dueThrow("clear: length(0)", INDEX, () -> x.length(0));
-        due("clear: numbers and times begin anew", x.event(0, 0, 0), 0);
-        due("clear: one event, one match", x.count(), 1);
-        due("clear: the next step's number", x.step(ANY, 0, 0, true), 1);
+        Due.number("clear: events()", x.events(), 0);
+        Due.number("clear: count(), as the pattern stays", x.count(), 0);
+        Due.number("clear: latest()", x.latest(), 0);
+        Due.thrown("clear: length(0)", INDEX, () -> x.length(0));
+        Due.number("clear: numbers and times begin anew", x.event(0, 0, 0), 0);
+        Due.number("clear: one event, one match", x.count(), 1);
+        Due.number("clear: the next step's number", x.step(ANY, 0, 0, true), 1);
     }
 
     private static void pattern() {
         EventPatterns x = new EventPatterns();
         addEvents(x, "0:0=0 0:0=0 0:0=0");
-        dueThrow("pattern: style -1", ARGUMENT, () -> begin(x, -1, 0));
-        dueThrow("pattern: style 2", ARGUMENT, () -> begin(x, 2, 0));
-        dueThrow("pattern: span -1", ARGUMENT, () -> begin(x, CLOSE, -1));
-        dueThrow("pattern: span 1000001", ARGUMENT, () -> begin(x, LOOSE, 1000001));
+        Due.thrown("pattern: style -1", ARGUMENT, () -> begin(x, -1, 0));
+        Due.thrown("pattern: style 2", ARGUMENT, () -> begin(x, 2, 0));
+        Due.thrown("pattern: span -1", ARGUMENT, () -> begin(x, CLOSE, -1));
+        Due.thrown("pattern: span 1000001", ARGUMENT, () -> begin(x, LOOSE, 1000001));
         x.step(ANY, 0, 0, false);
         x.step(ANY, 0, 0, false);
-        due("pattern: close", x.count(), 2);
+        Due.number("pattern: close", x.count(), 2);
         x.pattern(LOOSE, 0);
-        dueThrow("pattern: without steps", STATE, x::count);
-        dueThrow("pattern: latest() without steps", STATE, x::latest);
-        dueThrow("pattern: length() without steps", STATE, () -> x.length(-1));
-        dueThrow("pattern: match() without steps", STATE, () -> x.match(-1, -1, 9));
-        due("pattern: the first step again", x.step(ANY, 0, 0, false), 0);
-        due("pattern: one step alone", x.count(), 3);
+        Due.thrown("pattern: without steps", STATE, x::count);
+        Due.thrown("pattern: latest() without steps", STATE, x::latest);
+        Due.thrown("pattern: length() without steps", STATE, () -> x.length(-1));
+        Due.thrown("pattern: match() without steps", STATE, () -> x.match(-1, -1, 9));
+        Due.number("pattern: the first step again", x.step(ANY, 0, 0, false), 0);
+        Due.number("pattern: one step alone", x.count(), 3);
         x.step(ANY, 0, 0, false);
-        due("pattern: loose", x.count(), 3);
-        due("pattern: the events stay", x.events(), 3);
+        Due.number("pattern: loose", x.count(), 3);
+        Due.number("pattern: the events stay", x.events(), 3);
         x.pattern(CLOSE, 1000000);
         x.step(ANY, 0, 0, false);
-        due("pattern: the widest span", x.count(), 3);
+        Due.number("pattern: the widest span", x.count(), 3);
     }
 
     private static void step() {
@@ -154,110 +145,110 @@ public final class EventPatternsPromises {
         x.pattern(CLOSE, 0);
         addEvents(x, "0:0=0 0:1=0 0:2=0 0:3=0 0:4=0");
         for (int number = 0; number < 5; number++) {
-            due("step: its number", x.step(1 << number, 0, 0, false), number);
-            due("step: one match each time", x.count(), 1);
-            due("step: its length", x.length(0), number + 1);
+            Due.number("step: its number", x.step(1 << number, 0, 0, false), number);
+            Due.number("step: one match each time", x.count(), 1);
+            Due.number("step: its length", x.length(0), number + 1);
         }
         x.pattern(CLOSE, 0);
         x.step(1 | 4, 0, 0, false);
-        dueText("step: two kinds", matches(x), "0/0 2/0");
+        Due.text("step: two kinds", matches(x), "0/0 2/0");
         x.pattern(CLOSE, 0);
         x.step(255, 0, 0, true);
-        due("step: many, close", x.count(), 15);
+        Due.number("step: many, close", x.count(), 15);
     }
 
     private static void stepRefuses() {
         EventPatterns x = new EventPatterns();
-        dueThrow("step: kinds 0", ARGUMENT, () -> x.step(0, 0, 0, false));
-        dueThrow("step: kinds 256", ARGUMENT, () -> x.step(256, 0, 0, false));
-        dueThrow("step: kinds 257", ARGUMENT, () -> x.step(257, 0, 0, false));
-        dueThrow("step: kinds -1", ARGUMENT, () -> x.step(-1, 0, 0, false));
-        dueThrow("step: test -1", ARGUMENT, () -> x.step(1, -1, 0, false));
-        dueThrow("step: test 5", ARGUMENT, () -> x.step(1, 5, 0, false));
-        dueThrow("step: none was added", STATE, x::count);
-        due("step: kinds 1, test 0", x.step(1, 0, 0, false), 0);
-        due("step: test 1", x.step(255, 1, 0, false), 1);
-        due("step: test 2", x.step(255, 2, 0, true), 2);
-        due("step: test 3", x.step(255, 3, 0, true), 3);
-        due("step: kinds 255, test 4", x.step(255, 4, 0, true), 4);
-        dueThrow("step: the sixth", UNSUPPORTED, () -> x.step(1, 0, 0, false));
-        dueThrow("step: the sixth, its kinds wrong", ARGUMENT, () -> x.step(0, 0, 0, false));
-        dueThrow("step: the sixth, its test wrong", ARGUMENT, () -> x.step(1, 5, 0, false));
+        Due.thrown("step: kinds 0", ARGUMENT, () -> x.step(0, 0, 0, false));
+        Due.thrown("step: kinds 256", ARGUMENT, () -> x.step(256, 0, 0, false));
+        Due.thrown("step: kinds 257", ARGUMENT, () -> x.step(257, 0, 0, false));
+        Due.thrown("step: kinds -1", ARGUMENT, () -> x.step(-1, 0, 0, false));
+        Due.thrown("step: test -1", ARGUMENT, () -> x.step(1, -1, 0, false));
+        Due.thrown("step: test 5", ARGUMENT, () -> x.step(1, 5, 0, false));
+        Due.thrown("step: none was added", STATE, x::count);
+        Due.number("step: kinds 1, test 0", x.step(1, 0, 0, false), 0);
+        Due.number("step: test 1", x.step(255, 1, 0, false), 1);
+        Due.number("step: test 2", x.step(255, 2, 0, true), 2);
+        Due.number("step: test 3", x.step(255, 3, 0, true), 3);
+        Due.number("step: kinds 255, test 4", x.step(255, 4, 0, true), 4);
+        Due.thrown("step: the sixth", UNSUPPORTED, () -> x.step(1, 0, 0, false));
+        Due.thrown("step: the sixth, its kinds wrong", ARGUMENT, () -> x.step(0, 0, 0, false));
+        Due.thrown("step: the sixth, its test wrong", ARGUMENT, () -> x.step(1, 5, 0, false));
         x.pattern(LOOSE, 0);
-        due("step: room again in a new pattern", x.step(1, 0, 0, false), 0);
+        Due.number("step: room again in a new pattern", x.step(1, 0, 0, false), 0);
     }
 
     private static void count() {
         EventPatterns x = new EventPatterns();
         x.pattern(LOOSE, 100);
         x.step(1, 0, 0, false);
-        due("count: no events", x.count(), 0);
+        Due.number("count: no events", x.count(), 0);
         addEvents(x, "0:0=1 1:1=2 2:0=3 3:1=4");
-        due("count: one step", x.count(), 2);
+        Due.number("count: one step", x.count(), 2);
         x.step(2, 0, 0, false);
-        dueText("count: loose", matches(x), "0/0,1/1 0/0,3/1 2/0,3/1");
-        due("count: loose", x.count(), 3);
+        Due.text("count: loose", matches(x), "0/0,1/1 0/0,3/1 2/0,3/1");
+        Due.number("count: loose", x.count(), 3);
         x.pattern(CLOSE, 100);
         x.step(1, 0, 0, false);
         x.step(2, 0, 0, false);
-        due("count: close", x.count(), 2);
+        Due.number("count: close", x.count(), 2);
         x.step(4, 0, 0, false);
-        due("count: no kind for the last step", x.count(), 0);
+        Due.number("count: no kind for the last step", x.count(), 0);
         x.pattern(LOOSE, 100);
         x.step(ANY, 0, 0, true);
         x.step(ANY, 0, 0, true);
-        due("count: the same events with other steps count anew", x.count(), 6 + 4 * 2 + 3);
+        Due.number("count: the same events with other steps count anew", x.count(), 6 + 4 * 2 + 3);
         x.pattern(LOOSE, 100);
         x.step(ANY, 0, 0, false);
         x.step(ANY, 0, 0, true);
-        due("count: one, then many", x.count(), 6 + 4 + 1);
+        Due.number("count: one, then many", x.count(), 6 + 4 + 1);
         x.pattern(LOOSE, 100);
         x.step(ANY, 0, 0, true);
         x.step(ANY, 0, 0, false);
-        due("count: many, then one", x.count(), 6 + 4 + 1);
+        Due.number("count: many, then one", x.count(), 6 + 4 + 1);
     }
 
     private static void tests() {
         String row = "0:0=5 0:0=7 0:0=5 0:0=6";
-        dueText("test 0, many", found(row, LOOSE, "255 0 0 many"),
+        Due.text("test 0, many", found(row, LOOSE, "255 0 0 many"),
                 "0/0 0/0,1/0 0/0,1/0,2/0 0/0,1/0,2/0,3/0 0/0,1/0,3/0 0/0,2/0 0/0,2/0,3/0 0/0,3/0 "
                         + "1/0 1/0,2/0 1/0,2/0,3/0 1/0,3/0 2/0 2/0,3/0 3/0");
-        dueText("test 1, many", found(row, LOOSE, "255 1 0 many"),
+        Due.text("test 1, many", found(row, LOOSE, "255 1 0 many"),
                 "0/0 0/0,1/0 0/0,3/0 1/0 2/0 2/0,3/0 3/0");
-        dueText("test 2, many", found(row, LOOSE, "255 2 0 many"),
+        Due.text("test 2, many", found(row, LOOSE, "255 2 0 many"),
                 "0/0 1/0 1/0,2/0 1/0,3/0 2/0 3/0");
-        dueText("test 3, many", found(row, LOOSE, "255 3 0 many"),
+        Due.text("test 3, many", found(row, LOOSE, "255 3 0 many"),
                 "0/0 0/0,2/0 1/0 2/0 3/0");
-        dueText("test 4, many", found(row, LOOSE, "255 4 6 many"), "1/0 1/0,3/0 3/0");
-        dueText("test 4 of the first event", found(row, CLOSE, "255 4 7 one"), "1/0");
-        dueText("test 1 against the event ahead, not the first", found(row, LOOSE,
+        Due.text("test 4, many", found(row, LOOSE, "255 4 6 many"), "1/0 1/0,3/0 3/0");
+        Due.text("test 4 of the first event", found(row, CLOSE, "255 4 7 one"), "1/0");
+        Due.text("test 1 against the event ahead, not the first", found(row, LOOSE,
                 "255 0 0 one", "255 2 0 one", "255 1 0 one"), "1/0,2/1,3/2");
-        dueText("test 3 against the first, not the event ahead", found(row, LOOSE,
+        Due.text("test 3 against the first, not the event ahead", found(row, LOOSE,
                 "255 0 0 one", "255 1 0 one", "255 3 0 one"), "0/0,1/1,2/2");
         String far = "0:0=" + Integer.MIN_VALUE + " 0:0=" + Integer.MAX_VALUE;
-        dueText("test 1 over all ints", found(far, CLOSE, "255 0 0 one", "255 1 0 one"), "0/0,1/1");
-        dueText("test 2 over all ints", found(far, CLOSE, "255 0 0 one", "255 2 0 one"), "");
-        dueText("test 4 with the least n", found(far, CLOSE, "255 4 -2147483648 one"), "0/0 1/0");
-        dueText("test 4 with the highest n", found(far, CLOSE, "255 4 2147483647 one"), "1/0");
-        dueText("test 1 with a value alike", found("0:0=4 0:0=4", CLOSE, "255 0 0 one", "255 1 0 one"), "");
-        dueText("test 2 with a value alike", found("0:0=4 0:0=4", CLOSE, "255 0 0 one", "255 2 0 one"), "");
+        Due.text("test 1 over all ints", found(far, CLOSE, "255 0 0 one", "255 1 0 one"), "0/0,1/1");
+        Due.text("test 2 over all ints", found(far, CLOSE, "255 0 0 one", "255 2 0 one"), "");
+        Due.text("test 4 with the least n", found(far, CLOSE, "255 4 -2147483648 one"), "0/0 1/0");
+        Due.text("test 4 with the highest n", found(far, CLOSE, "255 4 2147483647 one"), "1/0");
+        Due.text("test 1 with a value alike", found("0:0=4 0:0=4", CLOSE, "255 0 0 one", "255 1 0 one"), "");
+        Due.text("test 2 with a value alike", found("0:0=4 0:0=4", CLOSE, "255 0 0 one", "255 2 0 one"), "");
     }
 
     private static void span() {
         EventPatterns x = new EventPatterns();
         addEvents(x, "0:0=0 10:0=0 20:0=0 1000000:0=0");
-        dueText("span 9", foundWithin(x, LOOSE, 9), "");
-        dueText("span 10", foundWithin(x, LOOSE, 10), "0/0,1/1 1/0,2/1");
-        dueText("span 19", foundWithin(x, LOOSE, 19), "0/0,1/1 1/0,2/1");
-        dueText("span 20", foundWithin(x, LOOSE, 20), "0/0,1/1 0/0,2/1 1/0,2/1");
-        dueText("span 999999", foundWithin(x, LOOSE, 999999),
+        Due.text("span 9", foundWithin(x, LOOSE, 9), "");
+        Due.text("span 10", foundWithin(x, LOOSE, 10), "0/0,1/1 1/0,2/1");
+        Due.text("span 19", foundWithin(x, LOOSE, 19), "0/0,1/1 1/0,2/1");
+        Due.text("span 20", foundWithin(x, LOOSE, 20), "0/0,1/1 0/0,2/1 1/0,2/1");
+        Due.text("span 999999", foundWithin(x, LOOSE, 999999),
                 "0/0,1/1 0/0,2/1 1/0,2/1 1/0,3/1 2/0,3/1");
-        dueText("span 1000000", foundWithin(x, LOOSE, 1000000),
+        Due.text("span 1000000", foundWithin(x, LOOSE, 1000000),
                 "0/0,1/1 0/0,2/1 0/0,3/1 1/0,2/1 1/0,3/1 2/0,3/1");
-        dueText("span 10, close", foundWithin(x, CLOSE, 10), "0/0,1/1 1/0,2/1");
+        Due.text("span 10, close", foundWithin(x, CLOSE, 10), "0/0,1/1 1/0,2/1");
         x.pattern(CLOSE, 10);
         x.step(ANY, 0, 0, true);
-        dueText("the span is from the first event to the last", matches(x),
+        Due.text("the span is from the first event to the last", matches(x),
                 "0/0 0/0,1/0 1/0 1/0,2/0 2/0 3/0");
     }
 
@@ -269,64 +260,64 @@ public final class EventPatternsPromises {
         for (int number = 1; number < 16; number++) {
             x.event(number, 1, number);
         }
-        due("kept: the first of sixteen", x.count(), 1);
-        due("kept: its number", x.match(0, 0, 0), 0);
+        Due.number("kept: the first of sixteen", x.count(), 1);
+        Due.number("kept: its number", x.match(0, 0, 0), 0);
         x.event(16, 1, 16);
-        due("kept: no longer the first of seventeen", x.count(), 0);
-        due("kept: seventeen came", x.events(), 17);
+        Due.number("kept: no longer the first of seventeen", x.count(), 0);
+        Due.number("kept: seventeen came", x.events(), 17);
         x.event(17, 0, 11);
-        due("kept: the latest", x.match(0, 0, 0), 17);
+        Due.number("kept: the latest", x.match(0, 0, 0), 17);
         x.pattern(LOOSE, 1000000);
         x.step(ANY, 0, 0, false);
-        due("kept: sixteen", x.count(), 16);
+        Due.number("kept: sixteen", x.count(), 16);
         for (int k = 0; k < 16; k++) {
-            due("kept: the numbers go on", x.match(k, 0, 0), k + 2);
+            Due.number("kept: the numbers go on", x.match(k, 0, 0), k + 2);
         }
         x.pattern(LOOSE, 1000000);
         x.step(ANY, 4, 15, false);
-        dueText("kept: values go with their events", matches(x), "15/0 16/0");
+        Due.text("kept: values go with their events", matches(x), "15/0 16/0");
         x.pattern(LOOSE, 1);
         x.step(2, 0, 0, false);
         x.step(1, 0, 0, false);
-        dueText("kept: times and kinds go with their events", matches(x), "16/0,17/1");
+        Due.text("kept: times and kinds go with their events", matches(x), "16/0,17/1");
     }
 
     private static void latest() {
         EventPatterns x = new EventPatterns();
         x.pattern(LOOSE, 100);
         x.step(1, 0, 0, true);
-        due("latest: no events", x.latest(), 0);
+        Due.number("latest: no events", x.latest(), 0);
         addEvents(x, "0:0=0 1:0=0 2:0=0");
-        due("latest: all that end with event 2", x.latest(), 4);
-        due("latest: of all", x.count(), 7);
+        Due.number("latest: all that end with event 2", x.latest(), 4);
+        Due.number("latest: of all", x.count(), 7);
         addEvents(x, "3:1=0");
-        due("latest: none that end with event 3", x.latest(), 0);
-        due("latest: of all still", x.count(), 7);
+        Due.number("latest: none that end with event 3", x.latest(), 0);
+        Due.number("latest: of all still", x.count(), 7);
         x.pattern(CLOSE, 1);
         x.step(ANY, 0, 0, true);
-        due("latest: close, in span", x.latest(), 2);
+        Due.number("latest: close, in span", x.latest(), 2);
         x.pattern(LOOSE, 100);
         x.step(1, 0, 0, true);
         x.step(2, 0, 0, false);
-        due("latest: it ends with the last step", x.latest(), 7);
+        Due.number("latest: it ends with the last step", x.latest(), 7);
         x.step(2, 0, 0, false);
-        due("latest: one that has steps ahead does not end", x.latest(), 0);
+        Due.number("latest: one that has steps ahead does not end", x.latest(), 0);
     }
 
     private static void length() {
         EventPatterns x = new EventPatterns();
         x.pattern(LOOSE, 100);
         x.step(ANY, 0, 0, true);
-        dueThrow("length: no match", INDEX, () -> x.length(0));
+        Due.thrown("length: no match", INDEX, () -> x.length(0));
         addEvents(x, "0:0=0 1:0=0 2:0=0");
         int[] lengths = {1, 2, 3, 2, 1, 2, 1};
         for (int k = 0; k < lengths.length; k++) {
-            due("length(" + k + ")", x.length(k), lengths[k]);
+            Due.number("length(" + k + ")", x.length(k), lengths[k]);
         }
-        dueThrow("length(7)", INDEX, () -> x.length(7));
-        dueThrow("length(-1)", INDEX, () -> x.length(-1));
-        dueThrow("length(highest int)", INDEX, () -> x.length(Integer.MAX_VALUE));
-        dueThrow("length(least int)", INDEX, () -> x.length(Integer.MIN_VALUE));
+        Due.thrown("length(7)", INDEX, () -> x.length(7));
+        Due.thrown("length(-1)", INDEX, () -> x.length(-1));
+        Due.thrown("length(highest int)", INDEX, () -> x.length(Integer.MAX_VALUE));
+        Due.thrown("length(least int)", INDEX, () -> x.length(Integer.MIN_VALUE));
     }
 
     private static void match() {
@@ -335,40 +326,40 @@ public final class EventPatternsPromises {
         x.step(1, 0, 0, true);
         x.step(2, 0, 0, false);
         addEvents(x, "0:2=0 1:0=0 2:0=0 3:1=0");
-        due("match: number of the first", x.match(0, 0, 0), 1);
-        due("match: number of the second", x.match(0, 1, 0), 2);
-        due("match: number of the third", x.match(0, 2, 0), 3);
-        due("match: step of the first", x.match(0, 0, 1), 0);
-        due("match: step of the second", x.match(0, 1, 1), 0);
-        due("match: step of the third", x.match(0, 2, 1), 1);
-        due("match: number in the next match", x.match(1, 0, 0), 2);
-        due("match: step in the next match", x.match(1, 1, 1), 1);
+        Due.number("match: number of the first", x.match(0, 0, 0), 1);
+        Due.number("match: number of the second", x.match(0, 1, 0), 2);
+        Due.number("match: number of the third", x.match(0, 2, 0), 3);
+        Due.number("match: step of the first", x.match(0, 0, 1), 0);
+        Due.number("match: step of the second", x.match(0, 1, 1), 0);
+        Due.number("match: step of the third", x.match(0, 2, 1), 1);
+        Due.number("match: number in the next match", x.match(1, 0, 0), 2);
+        Due.number("match: step in the next match", x.match(1, 1, 1), 1);
     }
 
     private static void matchRefuses() {
         EventPatterns x = new EventPatterns();
-        dueThrow("match: no steps goes first", STATE, () -> x.match(-1, -1, -1));
+        Due.thrown("match: no steps goes first", STATE, () -> x.match(-1, -1, -1));
         x.step(ANY, 0, 0, false);
         x.event(0, 0, 0);
-        dueThrow("match: k 1", INDEX, () -> x.match(1, 0, 0));
-        dueThrow("match: k -1", INDEX, () -> x.match(-1, 0, 0));
-        dueThrow("match: i 1", INDEX, () -> x.match(0, 1, 0));
-        dueThrow("match: i -1", INDEX, () -> x.match(0, -1, 0));
-        dueThrow("match: i highest int", INDEX, () -> x.match(0, Integer.MAX_VALUE, 1));
-        dueThrow("match: i least int", INDEX, () -> x.match(0, Integer.MIN_VALUE, 1));
-        dueThrow("match: what 2", ARGUMENT, () -> x.match(0, 0, 2));
-        dueThrow("match: what -1", ARGUMENT, () -> x.match(0, 0, -1));
-        dueThrow("match: k goes ahead of what", INDEX, () -> x.match(1, 0, 2));
-        dueThrow("match: i goes ahead of what", INDEX, () -> x.match(0, 1, 2));
-        due("match: what 0", x.match(0, 0, 0), 0);
-        due("match: what 1", x.match(0, 0, 1), 0);
+        Due.thrown("match: k 1", INDEX, () -> x.match(1, 0, 0));
+        Due.thrown("match: k -1", INDEX, () -> x.match(-1, 0, 0));
+        Due.thrown("match: i 1", INDEX, () -> x.match(0, 1, 0));
+        Due.thrown("match: i -1", INDEX, () -> x.match(0, -1, 0));
+        Due.thrown("match: i highest int", INDEX, () -> x.match(0, Integer.MAX_VALUE, 1));
+        Due.thrown("match: i least int", INDEX, () -> x.match(0, Integer.MIN_VALUE, 1));
+        Due.thrown("match: what 2", ARGUMENT, () -> x.match(0, 0, 2));
+        Due.thrown("match: what -1", ARGUMENT, () -> x.match(0, 0, -1));
+        Due.thrown("match: k goes ahead of what", INDEX, () -> x.match(1, 0, 2));
+        Due.thrown("match: i goes ahead of what", INDEX, () -> x.match(0, 1, 2));
+        Due.number("match: what 0", x.match(0, 0, 0), 0);
+        Due.number("match: what 1", x.match(0, 0, 1), 0);
     }
 
     private static void order() {
-        dueText("order: numbers, then steps, and an end ahead of what goes on",
+        Due.text("order: numbers, then steps, and an end ahead of what goes on",
                 found("0:0=0 0:0=0 0:0=0", LOOSE, "255 0 0 many", "255 0 0 many"),
                 "0/0,1/0,2/1 0/0,1/1 0/0,1/1,2/1 0/0,2/1 1/0,2/1");
-        dueText("order: close",
+        Due.text("order: close",
                 found("0:0=0 0:0=0 0:0=0 0:0=0", CLOSE, "255 0 0 many", "255 0 0 many"),
                 "0/0,1/0,2/0,3/1 0/0,1/0,2/1 0/0,1/0,2/1,3/1 0/0,1/1 0/0,1/1,2/1 0/0,1/1,2/1,3/1 "
                         + "1/0,2/0,3/1 1/0,2/1 1/0,2/1,3/1 2/0,3/1");
@@ -377,12 +368,12 @@ public final class EventPatternsPromises {
     private static void events() {
         EventPatterns x = new EventPatterns();
         for (int number = 0; number < 40; number++) {
-            due("events: so far", x.events(), number);
+            Due.number("events: so far", x.events(), number);
             x.event(number, number % 8, number);
         }
-        due("events: those no longer kept count too", x.events(), 40);
+        Due.number("events: those no longer kept count too", x.events(), 40);
         x.clear();
-        due("events: after clear()", x.events(), 0);
+        Due.number("events: after clear()", x.events(), 0);
     }
 
     private static void throwsChangeNothing() {
@@ -392,33 +383,33 @@ public final class EventPatternsPromises {
         x.step(ANY, 2, 0, false);
         addEvents(x, "4:0=1 5:1=2 6:2=1 7:3=3 8:4=2");
         String before = matches(x);
-        dueThrow("nothing changes: event, time", ARGUMENT, () -> x.event(7, 0, 0));
-        dueThrow("nothing changes: event, kind", ARGUMENT, () -> x.event(9, 8, 0));
-        dueThrow("nothing changes: pattern, style", ARGUMENT, () -> begin(x, 2, 0));
-        dueThrow("nothing changes: pattern, span", ARGUMENT, () -> begin(x, CLOSE, -1));
-        dueThrow("nothing changes: step, kinds", ARGUMENT, () -> x.step(0, 0, 0, false));
-        dueThrow("nothing changes: step, test", ARGUMENT, () -> x.step(1, 5, 0, false));
-        dueThrow("nothing changes: length", INDEX, () -> x.length(99999));
-        dueThrow("nothing changes: match, i", INDEX, () -> x.match(1, 9, 0));
-        dueThrow("nothing changes: match, what", ARGUMENT, () -> x.match(1, 0, 2));
-        dueText("nothing changes: the matches", matches(x), before);
-        due("nothing changes: events()", x.events(), 5);
-        due("nothing changes: the next event", x.event(8, 0, 0), 5);
-        due("nothing changes: the next step", x.step(ANY, 0, 0, false), 2);
+        Due.thrown("nothing changes: event, time", ARGUMENT, () -> x.event(7, 0, 0));
+        Due.thrown("nothing changes: event, kind", ARGUMENT, () -> x.event(9, 8, 0));
+        Due.thrown("nothing changes: pattern, style", ARGUMENT, () -> begin(x, 2, 0));
+        Due.thrown("nothing changes: pattern, span", ARGUMENT, () -> begin(x, CLOSE, -1));
+        Due.thrown("nothing changes: step, kinds", ARGUMENT, () -> x.step(0, 0, 0, false));
+        Due.thrown("nothing changes: step, test", ARGUMENT, () -> x.step(1, 5, 0, false));
+        Due.thrown("nothing changes: length", INDEX, () -> x.length(99999));
+        Due.thrown("nothing changes: match, i", INDEX, () -> x.match(1, 9, 0));
+        Due.thrown("nothing changes: match, what", ARGUMENT, () -> x.match(1, 0, 2));
+        Due.text("nothing changes: the matches", matches(x), before);
+        Due.number("nothing changes: events()", x.events(), 5);
+        Due.number("nothing changes: the next event", x.event(8, 0, 0), 5);
+        Due.number("nothing changes: the next step", x.step(ANY, 0, 0, false), 2);
 
         x.step(ANY, 0, 0, false);
         x.step(ANY, 0, 0, false);
         String full = matches(x);
-        dueThrow("nothing changes: a sixth step", UNSUPPORTED, () -> x.step(1, 4, 9, true));
-        dueText("nothing changes: after a sixth step", matches(x), full);
+        Due.thrown("nothing changes: a sixth step", UNSUPPORTED, () -> x.step(1, 4, 9, true));
+        Due.text("nothing changes: after a sixth step", matches(x), full);
         for (int number = 6; number < 400; number++) {
             x.event(8, number % 8, number % 3);
         }
         x.pattern(CLOSE, 3);
         x.step(ANY, 1, 0, true);
         String last = matches(x);
-        dueThrow("nothing changes: event 401", UNSUPPORTED, () -> x.event(9, 1, 7));
-        dueText("nothing changes: after event 401", matches(x), last);
+        Due.thrown("nothing changes: event 401", UNSUPPORTED, () -> x.event(9, 1, 7));
+        Due.text("nothing changes: after event 401", matches(x), last);
     }
 
     private static void mostMatches() {
@@ -434,21 +425,21 @@ public final class EventPatternsPromises {
         for (int size = 5; size <= 16; size++) {
             most += choose(16, size) * choose(size - 1, 4);
         }
-        due("most: count()", x.count(), most);
+        Due.number("most: count()", x.count(), most);
         int mostLatest = 0;
         for (int size = 5; size <= 16; size++) {
             mostLatest += choose(15, size - 1) * choose(size - 1, 4);
         }
-        due("most: latest()", x.latest(), mostLatest);
-        due("most: the first match's length", x.length(0), 16);
-        due("most: its event 11", x.match(0, 11, 0), 15);
-        due("most: the step of its event 11", x.match(0, 11, 1), 0);
-        due("most: the step of its event 15", x.match(0, 15, 1), 4);
-        due("most: the last match's length", x.length(most - 1), 5);
-        due("most: its first event", x.match(most - 1, 0, 0), 15);
-        due("most: its last event", x.match(most - 1, 4, 0), 19);
+        Due.number("most: latest()", x.latest(), mostLatest);
+        Due.number("most: the first match's length", x.length(0), 16);
+        Due.number("most: its event 11", x.match(0, 11, 0), 15);
+        Due.number("most: the step of its event 11", x.match(0, 11, 1), 0);
+        Due.number("most: the step of its event 15", x.match(0, 15, 1), 4);
+        Due.number("most: the last match's length", x.length(most - 1), 5);
+        Due.number("most: its first event", x.match(most - 1, 0, 0), 15);
+        Due.number("most: its last event", x.match(most - 1, 4, 0), 19);
         int past = most;
-        dueThrow("most: one past the last", INDEX, () -> x.length(past));
+        Due.thrown("most: one past the last", INDEX, () -> x.length(past));
     }
 
     private static int choose(int n, int k) {
@@ -486,43 +477,12 @@ public final class EventPatternsPromises {
         return matches(x);
     }
 
-    /** All matches in their order: number/step of each event, joined by commas. */
     private static String matches(EventPatterns x) {
-        StringBuilder text = new StringBuilder();
-        int count = x.count();
-        for (int k = 0; k < count; k++) {
-            text.append(k == 0 ? "" : " ");
-            int length = x.length(k);
-            for (int i = 0; i < length; i++) {
-                text.append(i == 0 ? "" : ",").append(x.match(k, i, 0)).append('/').append(x.match(k, i, 1));
-            }
-        }
-        return text.toString();
+        return new Matches(x).text();
     }
 
     private static int begin(EventPatterns x, int style, int span) {
         x.pattern(style, span);
         return 0;
-    }
-
-    private static void due(String call, int got, int want) {
-        dueText(call, String.valueOf(got), String.valueOf(want));
-    }
-
-    private static void dueThrow(String call, String want, Call made) {
-        String got;
-        try {
-            got = String.valueOf(made.answer());
-        } catch (RuntimeException thrown) {
-            got = thrown.getClass().getSimpleName();
-        }
-        dueText(call, got, want);
-    }
-
-    private static void dueText(String call, String got, String want) {
-        if (!got.equals(want)) {
-            wrong++;
-            System.out.println(call + " answered " + got + ", due is " + want);
-        }
     }
 }
