@@ -396,20 +396,6 @@ public final class EventPatternsPromises {
         Due.number("nothing changes: events()", x.events(), 5);
         Due.number("nothing changes: the next event", x.event(8, 0, 0), 5);
         Due.number("nothing changes: the next step", x.step(ANY, 0, 0, false), 2);
-
-        x.step(ANY, 0, 0, false);
-        x.step(ANY, 0, 0, false);
-        String full = matches(x);
-        Due.thrown("nothing changes: a sixth step", UNSUPPORTED, () -> x.step(1, 4, 9, true));
-        Due.text("nothing changes: after a sixth step", matches(x), full);
-        for (int number = 6; number < 400; number++) {
-            x.event(8, number % 8, number % 3);
-        }
-        x.pattern(CLOSE, 3);
-        x.step(ANY, 1, 0, true);
-        String last = matches(x);
-        Due.thrown("nothing changes: event 401", UNSUPPORTED, () -> x.event(9, 1, 7));
-        Due.text("nothing changes: after event 401", matches(x), last);
     }
 
     private static void mostMatches() {
